@@ -63,7 +63,7 @@ public final class LineTest {
         x.addFerry(1, 1, 99);
         x.addChannel(0, 1, 1, 9);
         int moon = x.addMoon(0, 1, 1, 4);
-        // The moon sails over and back, so that two go ashore in two hours.
+        // Each moon is taken over and pays, so that the next one gets the next number.
         for (int i = 0; i < 52; i++) {
             x.board(i % 2, moon);
             x.sail(i % 2, 1 - i % 2);

@@ -108,6 +108,8 @@ public final class WatersTest {
         Check.fails("4 ferry in it still", STATE, () -> x.removeChannel(1));
         Check.due("4 first", x.removeChannel(0), 1);
         Check.due("4 hours kept", x.wayHours(2, 3), 3);
+        x.addFerry(2, 4, 10);
+        Check.due("4 sill kept", x.earliestArrival(1, 3), 5);
         Check.fails("4 ferry in it now", STATE, () -> x.removeChannel(0));
         Check.due("4 pass", x.pass(3), 1);
         Check.due("4 ferry out", x.removeChannel(0), 0);
