@@ -25,7 +25,7 @@ public final class ModelTest {
     private ModelTest(long seed) {
         random = new Random(seed);
         craterLimit = 2 + random.nextInt(5);
-        rareness = 1 + random.nextInt(4);
+        rareness = 1 << random.nextInt(7);
     }
 
     public static void main(String[] args) throws ReflectiveOperationException {

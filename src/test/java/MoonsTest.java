@@ -19,6 +19,8 @@ public final class MoonsTest {
         rescue();
         readers();
         ranks();
+        fullOffice();
+        leaving();
         Check.end();
     }
 
@@ -294,5 +296,76 @@ public final class MoonsTest {
         for (int i = 0; i < fares.length; i++) {
             bothCounts(x, fares[i], counts[i]);
         }
+    }
+
+    /** Six craters, ten channels, three ferries and ten moons: as much as there can be. */
+    private static void fullOffice() {
+        MoonFerryOffice x = new MoonFerryOffice();
+        for (int i = 0; i < 6; i++) {
+            x.addCrater(9);
+        }
+        for (int i = 0; i < 6; i++) {
+            x.addChannel(i, (i + 1) % 6, 2, 9);
+        }
+        for (int i = 0; i < 4; i++) {
+            x.addChannel(i, i + 2, 3, 9);
+        }
+        for (int i = 0; i < 3; i++) {
+            x.addFerry(0, 9, 99);
+        }
+        for (int i = 0; i < 10; i++) {
+            x.addMoon(0, 1, 11, 7 - i % 7);
+        }
+        Check.due("58 full", x.isConsistent(), true);
+        Check.due("12 full", x.cheapestNet(), 10);
+        Check.due("13 full", x.cheapestNetByGrowing(), 10);
+        Check.due("10 full", x.wayHours(0, 3), 5);
+        Check.due("11 full", x.wayHoursByTable(0, 3), 5);
+        Check.due("22 full", x.earliestArrival(2, 3), 5);
+        Check.due("23 full", x.earliestArrivalByHours(2, 3), 5);
+        Check.fails("8 full", ELEMENT, () -> x.channelBetween(0, 3));
+        Check.fails("33 full", ELEMENT, () -> x.ferryOf(10));
+        Check.due("56 full", x.meanPhase(), 4.6);
+        // The lights are 1, 2, 3, 4, 3, 2, 1, 1, 2 and 3.
+        Check.due("38 full", x.countBelow(8), 6);
+        Check.due("39 full", x.countBelowByAsking(8), 6);
+        Check.due("37 full", x.moonAtRank(9), 7);
+        bothLoads("nine of ten", x, 2, 60);
+        Check.due("27 nine of ten", x.loadBest(2), 9);
+        Check.fails("33 the last of the lightest", STATE, () -> x.ferryOf(7));
+        Check.due("21 full", x.loadOf(2), 99);
+        Check.due("40 full", x.pass(24), 0);
+        Check.due("35 full", x.phaseOf(9), 6);
+        Check.due("4 full", x.removeChannel(0), 9);
+        Check.due("58 fewer", x.isConsistent(), true);
+    }
+
+    // What is told of the later moons stays the same when an earlier one leaves.
+    private static void leaving() {
+        MoonFerryOffice x = office();
+        x.addFerry(0, 9, 99);
+        x.addFerry(1, 9, 99);
+        x.addMoon(0, 1, 1, 1);
+        x.addMoon(0, 1, 20, 2);
+        x.addMoon(1, 0, 30, 3);
+        x.addMoon(0, 2, 7, 4);
+        x.board(0, 0);
+        x.board(0, 1);
+        x.board(1, 2);
+        x.sail(0, 1);
+        x.pass(3);
+        Check.due("26 first", x.land(0), 6);
+        Check.due("21 weight kept", x.loadOf(0), 20);
+        Check.due("21 weight kept", x.loadOf(1), 30);
+        Check.due("33 ferry kept", x.ferryOf(2), 1);
+        Check.due("34 shore kept", x.shoreOf(3), 0);
+        Check.due("35 phase kept", x.phaseOf(3), 4);
+        Check.due("36 fare kept", x.fareOf(2), 12);
+        Check.due("36 destination kept", x.fareOf(3), 0);
+        Check.due("26 second", x.land(1), 9);
+        Check.due("21 nothing", x.loadOf(0), 0);
+        x.sail(0, 0);
+        x.pass(3);
+        Check.due("25 weight kept", x.board(0, 3), 7);
     }
 }

@@ -180,5 +180,34 @@ public final class WatersTest {
         x.addChannel(2, 0, 4, 0);
         Check.due("12 ring", x.cheapestNet(), 7);
         Check.due("13 ring", x.cheapestNetByGrowing(), 7);
+        manyOrders();
+    }
+
+    // The short channels 0-1, 1-2 and 2-3 make the net, in whatever order the six are added.
+    private static void manyOrders() {
+        int[] ones = {0, 1, 2, 0, 0, 1};
+        int[] others = {1, 2, 3, 2, 3, 3};
+        int[] hours = {1, 2, 3, 5, 6, 7};
+        for (int order = 0; order < 46656; order++) {
+            MoonFerryOffice x = withCraters(4);
+            int rest = order;
+            for (int i = 0; i < 6; i++) {
+                int channel = rest % 6;
+                rest /= 6;
+                addIfNew(x, ones[channel], others[channel], hours[channel]);
+            }
+            if (x.channelCount() == 6) {
+                Check.due("12 order " + order, x.cheapestNet(), 6);
+                Check.due("13 order " + order, x.cheapestNetByGrowing(), 6);
+            }
+        }
+    }
+
+    private static void addIfNew(MoonFerryOffice x, int one, int other, int hours) {
+        try {
+            x.channelBetween(one, other);
+        } catch (NoSuchElementException e) {
+            x.addChannel(one, other, hours, 0);
+        }
     }
 }
