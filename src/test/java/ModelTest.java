@@ -53,7 +53,8 @@ public final class ModelTest {
 
     private void go(long seed) throws ReflectiveOperationException {
         Method[] queries = queries();
-        while (calls.size() < 512) {
+        // A text of up to 60 characters and its run end within the 512 calls that an object is used for.
+        while (calls.size() < 450) {
             int kind = random.nextInt(20);
             boolean good = true;
             if (kind < 7) {

@@ -1,51 +1,66 @@
-import java.lang.reflect.InvocationTargetException;
-import java.lang.reflect.Method;
 import java.util.ArrayList;
-import java.util.Arrays;
-import java.util.Comparator;
 import java.util.List;
 
-/** What an office answers to every question about the things that changes can change. */
+/** What an office answers to the questions about all that changes can change, in some 250 calls. */
 final class Portrait {
-    private static final List<String> NOT_ASKED = Arrays.asList("addCrater", "addChannel", "removeChannel",
-            "addFerry", "sail", "addMoon", "board", "land", "loadBest", "rescue", "pass", "append", "run",
-            "errorPosition", "failedCommand", "refusalReason", "lineAt", "describeFerry", "undo", "save",
-            "restore", "tide");
+    private static final String[] PLAIN = {"craterCount", "channelCount", "cheapestNet", "cheapestNetByGrowing",
+        "moonCount", "hour", "passageCount", "strandingCount", "coins", "fareTotal", "meanPhase", "isConsistent"};
+    private static final String[] OF_FERRIES = {"isAtSea", "craterOf", "targetOf", "hoursLeft", "isStranded",
+        "loadOf", "bestLoad", "bestLoadByTable", "loadShare"};
+    private static final String[] OF_FERRIES_AND_CRATERS = {"earliestArrival", "earliestArrivalByHours"};
+    private static final String[] OF_PAIRS = {"channelBetween", "wayHours", "wayHoursByTable"};
+    private static final String[] OF_MOONS = {"ferryOf", "shoreOf", "phaseOf", "fareOf", "countBelow",
+        "countBelowByAsking"};
+    private static final String[] OF_PASSAGES = {"passageFerry", "passageCrater", "passageHour"};
 
-    private Portrait() {
+    private final MoonFerryOffice office;
+    private final List<String> answers = new ArrayList<>();
+
+    private Portrait(MoonFerryOffice office) {
+        this.office = office;
     }
 
     static List<String> of(MoonFerryOffice x) {
-        List<String> answers = new ArrayList<>();
-        Method[] methods = MoonFerryOffice.class.getDeclaredMethods();
-        Arrays.sort(methods, Comparator.comparing(Method::getName));
-        for (Method method : methods) {
-            boolean open = java.lang.reflect.Modifier.isPublic(method.getModifiers());
-            if (open && !NOT_ASKED.contains(method.getName())) {
-                ask(x, method, answers);
-            }
+        Portrait portrait = new Portrait(x);
+        portrait.askAll(PLAIN, "");
+        portrait.askWaters(x.craterCount());
+        portrait.askFerries(x.craterCount());
+        portrait.askMoons(x.moonCount());
+        for (int recency = 0; recency < Math.min(10, x.passageCount()); recency++) {
+            portrait.askAll(OF_PASSAGES, " " + recency);
         }
-        return answers;
+        return portrait.answers;
     }
 
-    private static void ask(MoonFerryOffice x, Method method, List<String> answers) {
-        int count = method.getParameterCount();
-        for (int one = 0; one < (count > 0 ? 11 : 1); one++) {
-            for (int other = 0; other < (count > 1 ? 6 : 1); other++) {
-                Object[] arguments = count == 0 ? new Object[0] : new Object[] {one, other};
-                arguments = Arrays.copyOf(arguments, count);
-                answers.add(method.getName() + Arrays.toString(arguments) + answer(x, method, arguments));
-            }
+    private void askAll(String[] methods, String arguments) {
+        for (String method : methods) {
+            answers.add(method + arguments + ": " + Calls.answer(office, method + arguments));
         }
     }
 
-    private static Object answer(MoonFerryOffice x, Method method, Object[] arguments) {
-        try {
-            return method.invoke(x, arguments);
-        } catch (InvocationTargetException e) {
-            return e.getCause().getClass();
-        } catch (IllegalAccessException e) {
-            throw new AssertionError(e);
+    private void askWaters(int craters) {
+        for (int one = 0; one < craters; one++) {
+            answers.add("depth of " + one + ": " + office.depthOf(one));
+            for (int other = 0; other < one; other++) {
+                askAll(OF_PAIRS, " " + one + " " + other);
+            }
+        }
+    }
+
+    private void askFerries(int craters) {
+        for (int ferry = 0; ferry < 3; ferry++) {
+            askAll(OF_FERRIES, " " + ferry);
+            for (int crater = 0; crater < craters; crater++) {
+                askAll(OF_FERRIES_AND_CRATERS, " " + ferry + " " + crater);
+            }
+        }
+    }
+
+    private void askMoons(int moons) {
+        for (int place = 0; place < moons; place++) {
+            int moon = office.moonAt(place);
+            answers.add("place " + place + ": " + moon + ", rank " + place + ": " + office.moonAtRank(place));
+            askAll(OF_MOONS, " " + moon);
         }
     }
 }

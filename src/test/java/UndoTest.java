@@ -1,4 +1,3 @@
-import java.util.ArrayList;
 import java.util.List;
 import java.util.NoSuchElementException;
 
@@ -120,60 +119,48 @@ public final class UndoTest {
         Check.fails("43 nothing", ELEMENT, () -> x.passageHour(0));
     }
 
-    private static void run(MoonFerryOffice x, String text) {
-        for (int i = 0; i < text.length(); i++) {
-            x.append(text.charAt(i));
-        }
-        x.run();
-    }
-
     // The two offices differ in each thing that a state holds.
     private static void wholeOffice() {
-        MoonFerryOffice x = new MoonFerryOffice();
-        run(x, "crater 9;crater 8;crater 0;channel 01 2 9;channel 12 3 8");
-        run(x, "ferry 0 7 50;ferry 1 8 60;ferry 2 2 70;moon 01 11 3;pass 2");
-        run(x, "moon 12 12 4;moon 02 13 5;moon 21 14 6;load 0;load 1;load 2");
-        run(x, "sail 0 1;pass 5;sail 0 0;pass 2;land 0;land 3");
-        run(x, "load 0;sail 0 1;load 2;pass 15;land 0;sail 0 0;pass 1");
-        run(x, "rescue 2");
-        List<String> first = Portrait.of(x);
-        x.save();
-        for (int i = 0; i < 6; i++) {
-            x.undo();
-        }
+        String first = "text crater 9;crater 8;crater 0;channel 01 2 9;channel 12 3 8, "
+                + "text ferry 0 7 50;ferry 1 8 60;ferry 2 2 70;moon 01 11 3;pass 2, "
+                + "text moon 12 12 4;moon 02 13 5;moon 21 14 6;load 0;load 1;load 2, "
+                + "text sail 0 1;pass 5;sail 0 0;pass 2;land 0;land 3, "
+                + "text load 0;sail 0 1;load 2;pass 15;land 0;sail 0 0;pass 1, rescue 2";
+        String other = "crater 3, crater 2, crater 5, channel 2 1 1 2, channel 0 2 5 1, ferry 2 1 9, ferry 2 2 8, "
+                + "ferry 1 3 7, moon 1 0 1 1, moon 2 0 2 2, sail 0 0, sail 1 1, pass 9, sail 0 2, pass 8, moon 0 2 3 7";
+        List<String> portrait = Portrait.of(Calls.office(first));
+        Check.due("61 another office", Portrait.of(Calls.office(other)).equals(portrait), false);
+        MoonFerryOffice x = Calls.office(first + ", save, undo, undo, undo, undo, undo, undo");
         Check.due("59 empty again", Portrait.of(x), Portrait.of(new MoonFerryOffice()));
-        run(x, "crater 3;crater 2;crater 5;channel 21 1 2;channel 02 5 1");
-        run(x, "ferry 2 1 9;ferry 2 2 8;ferry 1 3 7;moon 10 1 1;moon 20 2 2");
-        run(x, "sail 0 0;sail 1 1;pass 9;sail 0 2;pass 8;moon 02 3 7");
-        Check.due("61 another office", Portrait.of(x).equals(first), false);
-        x.restore();
-        Check.due("61 the first office", Portrait.of(x), first);
-        Check.due("24 the next number", x.addMoon(0, 1, 1, 1), 4);
+        MoonFerryOffice y = Calls.office(first + ", save, undo, undo, undo, undo, undo, undo, " + other);
+        Check.due("59 another office", Portrait.of(y), Portrait.of(Calls.office(other)));
+        MoonFerryOffice z = Calls.office(first + ", save, undo, undo, undo, undo, undo, undo, " + other + ", restore");
+        Check.due("61 the first office", Portrait.of(z), portrait);
+        Check.due("24 the next number", z.addMoon(0, 1, 1, 1), 4);
+        MoonFerryOffice again = Calls.office(other + ", save, undo, undo, undo, undo, undo, undo, undo, undo, restore");
+        Check.due("61 the other office", Portrait.of(again), Portrait.of(Calls.office(other)));
     }
 
     private static void undoneOneByOne() {
-        MoonFerryOffice x = new MoonFerryOffice();
-        run(x, "crater 9;crater 8;crater 7;channel 01 2 9;channel 12 3 8");
-        run(x, "channel 02 1 7;ferry 0 7 50;ferry 1 8 60;ferry 2 2 70");
-        run(x, "moon 01 11 3;moon 12 12 4;moon 02 13 5;moon 21 14 6");
-        List<List<String>> portraits = new ArrayList<>();
-        String[] texts = {"load 0", "sail 0 1", "pass 1", "pass 1", "land 0", "sail 1 2", "land 2", "pass 48"};
-        for (String text : texts) {
-            portraits.add(Portrait.of(x));
-            run(x, text);
+        String start = "text crater 9;crater 8;crater 7;channel 01 2 9;channel 12 3 8, "
+                + "text channel 02 1 7;ferry 0 7 50;ferry 1 8 60;ferry 2 2 70, "
+                + "text moon 01 11 3;moon 12 12 4;moon 02 13 5;moon 21 14 6";
+        String[] changes = {"load 0", "sail 0 1", "pass 1", "pass 1", "land 0", "sail 1 2", "land 2", "pass 48"};
+        String[] others = {"removeChannel 0", "addChannel 1 0 9 1", "removeChannel 0", "addMoon 0 1 40 1"};
+        undone(start, changes);
+        undone(start + ", " + String.join(", ", changes), others);
+    }
+
+    private static void undone(String start, String[] changes) {
+        for (int left = 0; left < changes.length; left++) {
+            String kept = start;
+            String all = start;
+            for (int i = 0; i < changes.length; i++) {
+                all += ", " + changes[i];
+                kept += i < left ? ", " + changes[i] : "";
+            }
+            all += ", undo".repeat(changes.length - left);
+            Check.due("59 undone to " + kept, Portrait.of(Calls.office(all)), Portrait.of(Calls.office(kept)));
         }
-        x.save();
-        for (int i = 7; i >= 0; i--) {
-            Check.due("59 undo", x.undo(), i);
-            Check.due("59 undone " + texts[i], Portrait.of(x), portraits.get(i));
-        }
-        x.restore();
-        portraits.add(Portrait.of(x));
-        x.removeChannel(0);
-        x.addChannel(1, 0, 9, 1);
-        x.removeChannel(0);
-        x.addMoon(0, 1, 40, 1);
-        Check.due("59 undo", x.undo() + x.undo() + x.undo() + x.undo(), 6);
-        Check.due("59 undone channels", Portrait.of(x), portraits.get(8));
     }
 }
