@@ -232,6 +232,11 @@ public final class LineEdgesTest extends Edges {
         says("Returns whether all of them hold.", () -> {
             dueConsistent("");
             dueConsistent("crater 1");
+            dueConsistent("crater 9, crater 9, crater 9, crater 9, crater 9, crater 0, channel 0 1 9 1, channel 0 2 8 2, "
+                    + "channel 0 3 7 3, channel 0 4 6 4, channel 0 5 5 5, channel 1 2 4 6, channel 1 3 3 7, "
+                    + "channel 1 4 2 8, channel 1 5 1 9, channel 2 3 1 0, ferry 0 9 50, ferry 1 12 99, ferry 5 6 99, "
+                    + "moon 0 1 40 1, moon 0 2 11 2, moon 0 3 10 3, moon 0 4 9 4, moon 0 5 8 5, moon 0 1 7 6, "
+                    + "moon 1 2 6 7, moon 5 0 5 1, moon 0 1 4 2, moon 0 2 3 3");
         });
     }
 }

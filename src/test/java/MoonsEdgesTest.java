@@ -195,6 +195,21 @@ public final class MoonsEdgesTest extends Edges {
             due(x.moonAt(0), 1);
             fails(ELEMENT, () -> x.fareOf(0));
             due(x.loadOf(0), 20);
+            // The other moons stay what they were.
+            MoonFerryOffice z = office("crater 9, crater 9, crater 9, channel 0 1 3 9, channel 1 2 2 9, ferry 0 9 99, "
+                    + "ferry 1 9 99, moon 0 1 1 4, moon 0 2 20 1, moon 2 1 30 2, moon 1 0 7 3, load 0, board 1 3, "
+                    + "sail 0 1, pass 3, land 0");
+            due(z.fareOf(1), 10);
+            due(z.fareOf(2), 6);
+            due(z.fareOf(3), 12);
+            due(z.ferryOf(1), 0);
+            due(z.shoreOf(2), 2);
+            due(z.ferryOf(3), 1);
+            due(z.loadOf(0), 20);
+            due(z.loadOf(1), 7);
+            due(z.phaseOf(3), 3);
+            due(z.land(1), 0);
+            due(z.shoreOf(1), 1);
             // The fare is the one of the hour in which it lands, also that of phase 0.
             MoonFerryOffice y = office("crater 9, crater 9, channel 0 1 3 9, ferry 0 9 40, moon 0 1 1 7, board 0 0, "
                     + "sail 0 1, pass 24");

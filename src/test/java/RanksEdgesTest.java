@@ -10,6 +10,14 @@ public final class RanksEdgesTest extends Edges {
             + "moon 0 1 1 2, moon 0 1 1 3, moon 0 1 1 4, moon 0 1 1 5, moon 0 1 1 6, moon 0 1 1 7, moon 0 1 1 0, "
             + "moon 0 1 1 1";
 
+    /** Ten fares in ascending order: 1, 2, 3, 4, 5, 9, 18, 27, 36 and 45. */
+    private static final String ASCENDING = "crater 9, crater 9, crater 9, channel 0 1 1 9, channel 1 2 9 9, moon 0 1 1 0, "
+            + "moon 0 1 1 1, moon 0 1 1 2, moon 0 1 1 3, moon 0 1 1 4, moon 1 2 1 0, moon 1 2 1 1, moon 1 2 1 2, "
+            + "moon 1 2 1 3, moon 1 2 1 4";
+    private static final String DESCENDING = "crater 9, crater 9, crater 9, channel 0 1 1 9, channel 1 2 9 9, "
+            + "moon 1 2 1 4, moon 1 2 1 5, moon 1 2 1 6, moon 1 2 1 7, moon 1 2 1 0, moon 0 1 1 4, moon 0 1 1 5, "
+            + "moon 0 1 1 6, moon 0 1 1 7, moon 0 1 1 0";
+
     public static void main(String[] args) {
         moonCount();
         moonAt();
@@ -233,6 +241,14 @@ public final class RanksEdgesTest extends Edges {
             for (int i = 0; i < fares.length; i++) {
                 due(x.countBelow(fares[i]), counts[i]);
             }
+            for (String calls : new String[] {ASCENDING, DESCENDING}) {
+                MoonFerryOffice ten = office(calls);
+                due(ten.countBelow(1), 0);
+                due(ten.countBelow(2), 1);
+                due(ten.countBelow(9), 5);
+                due(ten.countBelow(45), 9);
+                due(ten.countBelow(46), 10);
+            }
         });
         says("`fare`: the fare, any number", () -> {
             MoonFerryOffice x = office(PORT + ", crater 9, moon 0 2 1 1");
@@ -245,6 +261,11 @@ public final class RanksEdgesTest extends Edges {
         says("Returns the number of moons.", () -> {
             due(office("").countBelow(MAX), 0);
             due(office(FIRST_GONE).countBelow(MAX), 2);
+            MoonFerryOffice one = office("crater 9, crater 9, channel 0 1 1 9, ferry 0 9 1, moon 0 1 1 4, board 0 0");
+            due(one.countBelow(5), 0);
+            due(one.countBelow(6), 1);
+            Calls.make(one, "sail 0 1, pass 1, land 0");
+            due(one.countBelow(6), 0);
             MoonFerryOffice x = office(TEN_MOONS);
             int[] counts = {0, 0, 0, 2, 2, 5, 5, 7, 7, 9, 9, 10};
             for (int fare = 0; fare < 12; fare++) {
@@ -262,6 +283,14 @@ public final class RanksEdgesTest extends Edges {
             for (int i = 0; i < fares.length; i++) {
                 due(x.countBelowByAsking(fares[i]), counts[i]);
             }
+            for (String calls : new String[] {ASCENDING, DESCENDING}) {
+                MoonFerryOffice ten = office(calls);
+                due(ten.countBelowByAsking(1), 0);
+                due(ten.countBelowByAsking(2), 1);
+                due(ten.countBelowByAsking(9), 5);
+                due(ten.countBelowByAsking(45), 9);
+                due(ten.countBelowByAsking(46), 10);
+            }
         });
         says("`fare`: the fare, any number", () -> {
             MoonFerryOffice x = office(PORT + ", crater 9, moon 0 2 1 1");
@@ -274,6 +303,11 @@ public final class RanksEdgesTest extends Edges {
         says("Returns the number of moons.", () -> {
             due(office("").countBelowByAsking(MAX), 0);
             due(office(FIRST_GONE).countBelowByAsking(MAX), 2);
+            MoonFerryOffice one = office("crater 9, crater 9, channel 0 1 1 9, ferry 0 9 1, moon 0 1 1 4, board 0 0");
+            due(one.countBelowByAsking(5), 0);
+            due(one.countBelowByAsking(6), 1);
+            Calls.make(one, "sail 0 1, pass 1, land 0");
+            due(one.countBelowByAsking(6), 0);
             MoonFerryOffice x = office(TEN_MOONS);
             int[] counts = {0, 0, 0, 2, 2, 5, 5, 7, 7, 9, 9, 10};
             for (int fare = 0; fare < 12; fare++) {

@@ -341,6 +341,9 @@ public final class TermsEdgesTest extends Edges {
             duePhases(x, 4, 5, 2);
             x.pass(1);
             duePhases(x, 5, 6, 3);
+            MoonFerryOffice full = office("crater 9, crater 9, moon 0 1 1 0, moon 0 1 1 1, moon 0 1 1 2, moon 0 1 1 3, "
+                    + "moon 0 1 1 4, moon 0 1 1 5, moon 0 1 1 6, moon 0 1 1 7, moon 0 1 1 0, moon 0 1 1 1, pass 24");
+            duePhases(full, 1, 2, 3, 4, 5, 6, 7, 0, 1, 2);
         });
         says("after 7 comes 0.", () -> {
             MoonFerryOffice x = office("crater 9, crater 9, moon 0 1 1 6, moon 0 1 1 7, pass 24");

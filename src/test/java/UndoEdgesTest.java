@@ -9,6 +9,16 @@ public final class UndoEdgesTest extends Edges {
     /** The same office, made by two changes. */
     private static final String TWO_RUNS = "text crater 9;crater 9;crater 0;channel 01 3 9;ferry 0 9 40, "
             + "text ferry 2 1 40;moon 01 10 4;moon 01 10 1;board 0 0";
+
+    /** Two offices that differ in each thing that changes can change, the first one made by seven changes. */
+    private static final String FIRST = "text crater 9;crater 8;crater 0;channel 01 2 9;channel 12 3 8, "
+            + "text ferry 0 7 50;ferry 1 8 60;ferry 2 2 70;moon 01 11 3;pass 2, "
+            + "text moon 12 12 4;moon 02 13 5;moon 21 14 6;load 0;load 1;load 2, "
+            + "text sail 0 1;pass 5;sail 0 0;pass 2;land 0;land 3, "
+            + "text load 0;sail 0 1;load 2;pass 15;land 0;sail 0 0;pass 1, rescue 2, sail 1 2";
+    private static final String OTHER = "crater 3, crater 2, crater 5, channel 2 1 1 2, channel 0 2 5 1, ferry 2 1 9, "
+            + "ferry 2 2 8, ferry 1 3 7, moon 1 0 1 1, moon 2 0 2 2, sail 0 0, sail 1 1, pass 9, sail 0 2, pass 8, "
+            + "moon 0 2 3 7";
     private static final String[] CHANGES = {"crater 3", "channel 1 2 4 5", "removeChannel 0", "ferry 1 2 3", "sail 0 1",
         "moon 1 0 7 3", "board 0 1", "land 0", "load 0", "rescue 1", "pass 1", "pass 48", "text pass 2",
         "text crater 1;ferry 1 1 1;moon 10 1 1;sail 0 1;pass 24;land 0"};
@@ -152,6 +162,16 @@ public final class UndoEdgesTest extends Edges {
             due(office(PORT + ", moon 0 1 1 1, undo").addMoon(0, 1, 1, 1), 2);
             due(office(PORT + ", save, moon 0 1 1 1, moon 0 1 1 1, restore").addMoon(0, 1, 1, 1), 2);
             due(office(PORT + ", sail 0 1, pass 3, land 0, undo").addMoon(0, 1, 1, 1), 2);
+            // What later changes wrote over comes back: channels, a passage of the latest ten, an arrival.
+            String channels = "crater 9, crater 9, crater 9, channel 0 1 1 2, channel 1 2 3 4, channel 0 2 5 6";
+            due(portrait(channels + ", removeChannel 0, undo"), portrait(channels));
+            due(portrait(channels + ", removeChannel 0, removeChannel 0, channel 1 0 7 8, undo, undo, undo"),
+                    portrait(channels));
+            String ferries = "crater 9, crater 9, channel 0 1 1 9, ferry 0 1 1, ferry 0 1 1, sail 1 1, pass 1"
+                    + ", sail 0 1, pass 1, sail 0 0, pass 1".repeat(4) + ", sail 0 1, pass 1";
+            due(portrait(ferries + ", sail 0 0, pass 1, undo, undo"), portrait(ferries));
+            due(portrait(ferries + ", sail 0 0, pass 1, sail 0 1, pass 1, undo, undo, undo, undo"), portrait(ferries));
+            due(portrait(ferries + ", sail 0 0, pass 1, sail 0 1, undo, undo"), portrait(ferries + ", sail 0 0"));
             // A number that was given before the snapshot goes on from there.
             due(office(PORT + ", sail 0 1, pass 3, land 0, save, restore").addMoon(0, 1, 1, 1), 2);
         });
@@ -204,6 +224,11 @@ public final class UndoEdgesTest extends Edges {
             due(x.hour(), 3);
             due(Portrait.of(office(PORT + ", save, sail 0 1, pass 3, land 0, removeChannel 0, restore")),
                     portrait(PORT));
+            String undone = FIRST + ", save" + undos(7);
+            due(portrait(undone), portrait(""));
+            due(portrait(undone + ", " + OTHER), portrait(OTHER));
+            due(portrait(undone + ", " + OTHER + ", restore"), portrait(FIRST));
+            due(portrait("save, " + FIRST + ", restore, " + OTHER), portrait(OTHER));
             // An undone state can be saved, and undoing leaves the snapshot as it is.
             due(office("pass 1, pass 2, undo, save, pass 4, restore").hour(), 1);
             due(office("pass 1, pass 2, save, undo, undo, restore").hour(), 3);

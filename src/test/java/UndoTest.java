@@ -1,4 +1,3 @@
-import java.util.List;
 import java.util.NoSuchElementException;
 
 /** Promises 59 to 61. */
@@ -12,7 +11,6 @@ public final class UndoTest {
         failuresAreNone();
         snapshot();
         snapshotAndUndo();
-        wholeOffice();
         undoneOneByOne();
         Check.end();
     }
@@ -117,28 +115,6 @@ public final class UndoTest {
         x.restore();
         Check.due("41 snapshot kept", x.hour(), 1);
         Check.fails("43 nothing", ELEMENT, () -> x.passageHour(0));
-    }
-
-    // The two offices differ in each thing that a state holds.
-    private static void wholeOffice() {
-        String first = "text crater 9;crater 8;crater 0;channel 01 2 9;channel 12 3 8, "
-                + "text ferry 0 7 50;ferry 1 8 60;ferry 2 2 70;moon 01 11 3;pass 2, "
-                + "text moon 12 12 4;moon 02 13 5;moon 21 14 6;load 0;load 1;load 2, "
-                + "text sail 0 1;pass 5;sail 0 0;pass 2;land 0;land 3, "
-                + "text load 0;sail 0 1;load 2;pass 15;land 0;sail 0 0;pass 1, rescue 2";
-        String other = "crater 3, crater 2, crater 5, channel 2 1 1 2, channel 0 2 5 1, ferry 2 1 9, ferry 2 2 8, "
-                + "ferry 1 3 7, moon 1 0 1 1, moon 2 0 2 2, sail 0 0, sail 1 1, pass 9, sail 0 2, pass 8, moon 0 2 3 7";
-        List<String> portrait = Portrait.of(Calls.office(first));
-        Check.due("61 another office", Portrait.of(Calls.office(other)).equals(portrait), false);
-        MoonFerryOffice x = Calls.office(first + ", save, undo, undo, undo, undo, undo, undo");
-        Check.due("59 empty again", Portrait.of(x), Portrait.of(new MoonFerryOffice()));
-        MoonFerryOffice y = Calls.office(first + ", save, undo, undo, undo, undo, undo, undo, " + other);
-        Check.due("59 another office", Portrait.of(y), Portrait.of(Calls.office(other)));
-        MoonFerryOffice z = Calls.office(first + ", save, undo, undo, undo, undo, undo, undo, " + other + ", restore");
-        Check.due("61 the first office", Portrait.of(z), portrait);
-        Check.due("24 the next number", z.addMoon(0, 1, 1, 1), 4);
-        MoonFerryOffice again = Calls.office(other + ", save, undo, undo, undo, undo, undo, undo, undo, undo, restore");
-        Check.due("61 the other office", Portrait.of(again), Portrait.of(Calls.office(other)));
     }
 
     private static void undoneOneByOne() {

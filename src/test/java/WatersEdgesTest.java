@@ -189,6 +189,17 @@ public final class WatersEdgesTest extends Edges {
             due(y.channelBetween(0, 1), 0);
             due(y.channelBetween(2, 3), 1);
             fails(REFUSED, () -> y.sail(0, 3));
+            // A ferry that is in a later channel stays in it.
+            MoonFerryOffice w = office(CHAIN + ", ferry 2 1 1, pass 1, sail 0 3, removeChannel 0");
+            due(w.targetOf(0), 3);
+            due(w.hoursLeft(0), 3);
+            due(w.earliestArrival(0, 1), 9);
+            fails(STATE, () -> w.removeChannel(1));
+            due(w.removeChannel(0), 1);
+            fails(STATE, () -> w.removeChannel(0));
+            w.pass(3);
+            due(w.craterOf(0), 3);
+            due(w.removeChannel(0), 0);
             MoonFerryOffice z = office(FULL);
             z.removeChannel(0);
             due(z.channelBetween(0, 2), 0);
@@ -415,6 +426,14 @@ public final class WatersEdgesTest extends Edges {
                     + "channel 4 5 5 0, channel 5 3 4 0, channel 0 3 9 0, channel 2 5 8 0").cheapestNet(), 20);
             due(office(FULL).cheapestNet(), 13);
             due(office(FULL + ", removeChannel 4").cheapestNet(), 17);
+            // What was asked before makes no difference.
+            MoonFerryOffice x = office("crater 9, crater 9, crater 9, crater 9, channel 3 0 9 0, channel 1 0 1 0, "
+                    + "channel 2 1 2 0");
+            due(x.cheapestNet(), 12);
+            due(x.cheapestNet(), 12);
+            x.addChannel(3, 2, 3, 0);
+            due(x.cheapestNet(), 6);
+            due(x.cheapestNet(), 6);
         });
         says("Returns the number of hours, 0 for fewer than 2 craters.", () -> {
             due(office("").cheapestNet(), 0);
