@@ -415,6 +415,13 @@ public final class TermsEdgesTest extends Edges {
             due(y.bestLoadByTable(0), 15);
             due(y.loadBest(0), 1);
             due(y.ferryOf(0), 0);
+            // A sum that is greater by 1 comes before the lowest number.
+            MoonFerryOffice z = office("crater 9, crater 9, channel 0 1 1 9, ferry 0 9 40, moon 0 1 40 3, moon 0 1 20 2, "
+                    + "moon 0 1 20 1");
+            due(z.bestLoad(0), 5);
+            due(z.bestLoadByTable(0), 5);
+            due(z.loadBest(0), 2);
+            due(z.shoreOf(0), 0);
         });
         says("of several, it is the one that contains the moon with the lowest number among those moons that are in "
                 + "one of them and not in another one, even if the fare of this moon is 0.", () -> {
